@@ -1850,11 +1850,12 @@ public final class BeamHall {
             for (int i = 0; i < hall.askCount; i++) {
                 sound[i] = soundWishes(i);
             }
-            for (size = 2; size <= RING_MOST; size++) {
+            for (int length = 2; length <= RING_MOST; length++) {
+                size = length;
                 for (int i = 0; i < hall.askCount; i++) {
                     members[0] = hall.askAt(i);
                     if (sound[i] != 0 && closes(1)) {
-                        return size;
+                        return length;
                     }
                 }
             }
