@@ -1907,7 +1907,7 @@ public final class BeamHall {
             return true;
         }
 
-        /** Tries it, and puts all back as it was. */
+        /** Tries it, one given after the other from the least one on, and puts all back as it was. */
         boolean canTurn() {
             keepPlaces();
             for (int i = 0; i < size; i++) {
@@ -1923,14 +1923,10 @@ public final class BeamHall {
                     laid++;
                 }
             }
-            boolean fits = laid == size;
-            for (int i = 0; i < laid; i++) {
-                hall.lift(members[i]);
-            }
             for (int i = 0; i < size; i++) {
                 restore(i);
             }
-            return fits;
+            return laid == size;
         }
 
         void keepPlaces() {
@@ -1945,6 +1941,7 @@ public final class BeamHall {
             }
         }
 
+        /** All of like LONG: what was laid in the trial is covered by these. */
         void restore(int i) {
             Ask ask = members[i];
             Bench had = hall.benchAt(bench[i]);

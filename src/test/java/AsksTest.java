@@ -119,6 +119,9 @@ public final class AsksTest {
     d.is("SHIFT", x.askOf(0, 6), 1);
     d.is("LOSS", x.askOf(0, 8), 11);
     d.is("OWED: 11 by 8, cut", x.askOf(0, 9), 1);
+    x.trip(20, 20);
+    x.trip(0, 9);
+    d.is("LOSS of its SHIFTS alone", x.askOf(0, 8), 16);
     d.is("askOf(1, 99): -1 first", x.askOf(1, 99), -1);
     d.is("askOf(-1, 0)", x.askOf(-1, 0), -1);
     d.is("askOf(0, 10)", x.askOf(0, 10), -2);

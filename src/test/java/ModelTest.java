@@ -21,6 +21,8 @@ public final class ModelTest {
   private int mostTexts;
   private int mostAsks;
   private boolean wild;
+  private boolean wishful;
+  private static final int[] RINGS = new int[6];
   private static final int[] BARS = new int[13];
 
   private int next(int n) {
@@ -45,6 +47,7 @@ public final class ModelTest {
     for (int i = 0; i < NAMES.length; i++) {
       line.append(NAMES[i]).append(' ').append(answers[i]).append('/').append(refused[i]).append(' ');
     }
+    System.out.println("ring(-1) answered " + java.util.Arrays.toString(RINGS));
     System.out.println("fit and why answered " + java.util.Arrays.toString(BARS));
     System.out.println(runs + " runs alike; answers/refusals: " + line);
   }
@@ -57,6 +60,7 @@ public final class ModelTest {
     wild = next(8) == 0;
     mostTexts = next(4) == 0 ? 20 : next(4);
     mostAsks = next(4) == 0 ? 30 : 4 + next(10);
+    wishful = next(5) == 0;
     int setUp = 1 + next(3);
     boolean many = next(3) > 0;
     for (int i = 0; i < setUp; i++) {
@@ -70,6 +74,7 @@ public final class ModelTest {
     while (told.size() < 500) {
       int pick = next(total), call = 0;
       while (pick >= OFTEN[call]) pick -= OFTEN[call++];
+      if (wishful && next(2) == 0) call = 29 + next(12) / 11 * (1 + next(2));
       boolean fine = call == 7 ? newAsk(length) : call == 11 ? newText() : any(NAMES[call]);
       if (!fine) return false;
       if (last >= -6 && last < 0 && !NAMES[call].equals("count")) refused[call]++;
@@ -172,7 +177,9 @@ public final class ModelTest {
       case "best": return best();
       case "hosts": case "lead": return same(name, b, s, 0, 0, 0, 0, 0);
       case "had": return same(name, b, s, hourNumber(), 0, 0, 0, 0);
-      case "wish": return same(name, placed(a), placed(askNumber()), next(7) == 0 ? 0 : 1, 0, 0, 0, 0);
+      case "wish":
+        if (wishful && next(4) > 0) return wishesAround();
+        return same(name, placed(a), placed(askNumber()), next(7) == 0 ? 0 : 1, 0, 0, 0, 0);
       case "ring": return same(name, next(7) - 1, 0, 0, 0, 0, 0, 0);
       case "put": return same(name, model.asks.isEmpty() ? -9 : next(3) == 0 ? -9 : a, 0, 0, 0, 0, 0, 0);
       case "check": return check();
@@ -201,6 +208,21 @@ public final class ModelTest {
     return same("give", a, b, s, 0, 0, 0, 0);
   }
 
+  /** Some ASKS with PLACES wish around; then the RING, and now and then all WISHES of one are taken back. */
+  private boolean wishesAround() {
+    int n = 3 + next(3), first = placed(askNumber()), from = first;
+    for (int i = 0; i < model.asks.size() && next(3) > 0; i++) {
+      if (model.wishes[from][i] && !same("wish", from, i, 0, 0, 0, 0, 0)) return false;
+    }
+    for (int i = 1; i < n; i++) {
+      int to = placed(askNumber());
+      if (!same("wish", from, to, 1, 0, 0, 0, 0)) return false;
+      from = to;
+    }
+    return same("wish", from, first, 1, 0, 0, 0, 0) && same("ring", -1, 0, 0, 0, 0, 0, 0)
+        && same("ring", 4, 0, 0, 0, 0, 0, 0);
+  }
+
   private boolean setting() {
     int what = next(3);
     return same("set", what, what == 0 ? next(4) : what == 1 ? (next(2) == 0 ? 100 : next(101)) : next(2), 0, 0, 0, 0, 0);
@@ -208,12 +230,14 @@ public final class ModelTest {
 
   private boolean best() {
     int set = 0, a = shift(), member = -1;
-    int most = model.benches.size() > 2 ? 2 : 3;
+    int span = next(8);
+    int spots = model.benches.size() * (span + 1);
+    int most = spots > 16 ? 2 : spots > 8 ? 3 : 4;
     for (int i = 0; i < 12 && Integer.bitCount(set) < most; i++) {
       int n = askNumber();
       if (n < model.asks.size() && model.asks.get(n).place == null && !model.asks.get(n).withdrawn) { set |= 1 << n; member = n; }
     }
-    int b = Math.min(199, a + next(8));
+    int b = Math.min(199, a + span);
     return same("best", a, b, set, -1, 0, 0, 0) && (member < 0 || same("best", a, b, set, member, 0, 0, 0));
   }
 
@@ -244,9 +268,12 @@ public final class ModelTest {
   private int last;
 
   private boolean same(String name, int a, int b, int c, int d, int e, int f, int g) {
-    if (name.equals("best") && Integer.bitCount(c) == 4 && model.benches.size() > 1) return true;
+    // Model tries all places of all: too many are not asked for.
+    if (name.equals("best") && Integer.bitCount(c) > 2 && model.benches.size() * (b - a + 1) > 16) return true;
+    if (name.equals("best") && Integer.bitCount(c) > 3 && model.benches.size() * (b - a + 1) > 8) return true;
     int due = ofModel(name, a, b, c, d, e, f, g);
     int got = ofHall(name, a, b, c, d, e, f, g);
+    if (name.equals("ring") && a == -1) RINGS[due]++;
     if ((name.equals("fit") || name.equals("why")) && due >= 0) BARS[due]++;
     told.add(name + "(" + a + ", " + b + ", " + c + ", " + d + ", " + e + ", " + f + ", " + g + ") = " + due);
     return compare(got, due);

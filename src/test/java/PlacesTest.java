@@ -183,6 +183,11 @@ public final class PlacesTest {
     d.is("20", x.hosts(1, 20), 4);
     d.is("21", x.hosts(1, 21), 4);
     d.is("22", x.hosts(1, 22), 4);
+    x.take(0);
+    x.take(1);
+    d.is("in the last SHIFT", x.give(0, 1, 199), 1);
+    d.is("9: 198 is too near", x.fit(1, 1, 198), 9);
+    d.is("197 is not", x.fit(1, 1, 197), 0);
   }
 
   private static void promise20Watched() {

@@ -82,6 +82,7 @@ public final class PlansTest {
     d.is("6 are not above 6", x.plan(2, 6), 1);
     d.is("PLACES that begin ahead do not count", begunAhead(), 1);
     d.is("SHIFTS behind b do not count", behind(), 1);
+    d.is("but one that begins in b does", atEnd(), 0);
     x.set(1, 0);
     d.is("SHARE 0", x.plan(20, 90), 0);
   }
@@ -101,6 +102,15 @@ public final class PlansTest {
     Due.ask(x, 1, 3);
     x.give(0, 0, 8);
     x.set(1, 80);
+    return x.plan(4, 8);
+  }
+
+  private static int atEnd() {
+    BeamHall x = Due.hall(1);
+    Due.ask(x, 0, 1);
+    Due.ask(x, 1, 1);
+    x.give(0, 0, 8);
+    x.set(1, 20);
     return x.plan(4, 8);
   }
 
@@ -225,6 +235,12 @@ public final class PlansTest {
     d.is("0 at 0, HOST 0", y.best(3, 3, 3, 0), 24);
     d.is("1 at 1, HOST 1", y.best(3, 3, 3, 1), 25);
     d.is("all within b", y.best(199, 199, 3, 1), 8 * 199 + 1);
+    Due.text(y, "W:g=0&s<6", 0);
+    d.is("WATCHED: two HOSTS of BENCH 1, none is left for 1", y.best(4, 4, 3, -1), 5);
+    d.is("the first: 0 has it", y.best(4, 4, 3, 0), 33);
+    d.is("1 is left out", y.best(4, 4, 3, 1), -9);
+    d.is("in 6 and 7 it is not WATCHED", y.best(5, 7, 3, 0), 41);
+    d.is("and 1 waits for its HOST to rest", y.best(5, 7, 3, 1), 56);
   }
 
   private static void promise26Refusals() {
@@ -239,6 +255,7 @@ public final class PlansTest {
     d.is("set with 30", x.best(0, 3, 1 << 30, -1), -1);
     d.is("one that is not in it", x.best(0, 3, 3, 2), -1);
     d.is("one that can not be in it", x.best(0, 3, 3, 32), -1);
+    d.is("0, that is not in it", x.best(0, 3, 2, 0), -1);
     d.is("what -2, 9 SHIFTS: -2 first", x.best(0, 8, 63, -2), -2);
     d.is("9 SHIFTS, one has a PLACE: -6 first", x.best(0, 8, 32, -1), -6);
     d.is("8 SHIFTS", x.best(0, 7, 1, -1), 0);
@@ -247,7 +264,7 @@ public final class PlansTest {
     d.is("one has a PLACE", x.best(0, 3, 33, -1), -3);
     x.withdraw(4);
     d.is("one is WITHDRAWN", x.best(0, 3, 30, -1), -3);
-    d.refusals("best", x, 8, 1, 2, 0, 0, 2);
+    d.refusals("best", x, 9, 1, 2, 0, 0, 2);
   }
 
   private static void promise29Again() {

@@ -164,6 +164,9 @@ public final class RingsTest {
     x.wish(3, 1, true);
     x.wish(3, 0, false);
     ring("three", x, 0, 1, 2);
+    d.is("HOSTS stay as a RING is asked for", x.hosts(0, 2) * 10 + x.hosts(1, 2), 12);
+    d.is("HOSTS of the second SHIFT", x.hosts(0, 3) * 10 + x.hosts(1, 3), 12);
+    d.is("HOSTS of the third one", x.hosts(0, 8) * 10 + x.hosts(0, 9), 11);
     d.is("swap()", x.swap(), 3);
     d.is("0", x.askOf(0, 6) * 10 + x.askOf(0, 5), 21);
     d.is("1", x.askOf(1, 6) * 10 + x.askOf(1, 5), 80);
@@ -182,5 +185,16 @@ public final class RingsTest {
     d.is("1", x.askOf(1, 6) * 10 + x.askOf(1, 5), 81);
     d.is("HAD on 6 is the last of that HOUR", x.had(1, 8, 6), 1);
     d.refusals("swap", x, 0, 0, 2, 0, 0, 0);
+    BeamHall y = new BeamHall();
+    y.bench(1, 3);
+    y.bench(1, 1);
+    Due.ask(y, 0, 2);
+    Due.ask(y, 1, 2);
+    y.give(0, 0, 2);
+    y.give(1, 1, 5);
+    wishes(y, 0, 1);
+    d.is("WISHES", y.ring(-1), 2);
+    Due.text(y, "W:g=0&s=6", 0);
+    d.is("WATCHED in its second SHIFT there: one HOST is too few", y.ring(-1), 0);
   }
 }

@@ -216,6 +216,9 @@ public final class TextsTest {
     holds("1=0/1=0", false);
     holds("1=0|1=1/1=0|1=1", false);
     holds("!1=0", true);
+    holds("!1=1", false);
+    holds("!!1=1", true);
+    holds("!!!(1=1)", false);
     holds("!1=0&1=0", false);
     holds("!(1=0&1=0)", true);
     holds("!!1=0", false);
