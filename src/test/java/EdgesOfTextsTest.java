@@ -326,9 +326,13 @@ public final class EdgesOfTextsTest {
     d.is("32 less 30", x.askOf(0, 9), 2);
     d.is("0 in a B", x.barred(0, 0, 0, 0), 1);
     d.is("0 in a W", x.barred(0, 0, 0, 1), 0);
-    Due.text(x, "B:t=1", 0);
-    d.is("0 in a QUARREL", x.barred(0, 0, 0, 3) * 10 + x.barred(0, 0, 0, 4), 3);
-    d.is("0 and not 32, either", Due.text(x, "B:t=32", 0) * 10 + x.barred(0, 0, 0, 4), 43);
+    Due.text(x, "B:t>0", 0);
+    d.is("0 in a QUARREL: the first holds, the other does not", x.barred(0, 0, 0, 3) * 10 + x.barred(0, 0, 0, 4), 3);
+    Due.text(x, "B:0=1", 1);
+    Due.text(x, "B:t=0", 1);
+    Due.text(x, "B:0=0", 1);
+    x.strike(0, 1);
+    d.is("0 in a QUARREL: 4 with 5, that holds", x.barred(0, 0, 1, 3) * 10 + x.barred(0, 0, 1, 4), 45);
   }
 
   // "in force from a SHIFT on, till STRUCK from a SHIFT on (told once)"
