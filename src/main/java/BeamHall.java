@@ -275,7 +275,7 @@ public final class BeamHall {
         if (n > 8 || n > TAPE - tape.size) {
             return refuse(ROOM);
         }
-        return tape.take(n, bytes);
+        return tape.append(n, bytes);
     }
 
     public int text(int from) {
@@ -915,7 +915,7 @@ public final class BeamHall {
             code = new int[TAPE];
         }
 
-        int take(int n, long more) {
+        int append(int n, long more) {
             for (int i = 0; i < n && size < TAPE; i++) {
                 bytes[size] = (int) (more >> 8 * i & 255);
                 size++;

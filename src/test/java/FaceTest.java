@@ -80,8 +80,17 @@ public final class FaceTest {
         fault(Modifier.isStatic(f.getModifiers()) && !Modifier.isFinal(f.getModifiers()), "static state: " + f);
       }
       fault(fields > 20, "too many fields: " + c + " " + fields);
-      for (Method m : c.getDeclaredMethods()) fault(m.getParameterCount() > 7, "too many parameters: " + m);
+      for (Method m : c.getDeclaredMethods()) {
+        fault(m.getParameterCount() > 7, "too many parameters: " + m);
+        fault(bearsPublicName(m), "bears a public name: " + m);
+      }
     }
+  }
+
+  /** Told of private methods alone; kept for all in the classes inside, so that a name means one thing. */
+  private static boolean bearsPublicName(Method m) {
+    for (String told : FACE) if (told.startsWith("int " + m.getName() + "(")) return true;
+    return false;
   }
 
   private static void source() throws IOException {

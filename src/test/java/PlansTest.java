@@ -10,6 +10,7 @@ public final class PlansTest {
     promise25Why();
     promise26Best();
     promise26Ties();
+    promise26Watched();
     promise26Refusals();
     promise29Again();
     promise29AgainInOrder();
@@ -241,6 +242,44 @@ public final class PlansTest {
     d.is("1 is left out", y.best(4, 4, 3, 1), -9);
     d.is("in 6 and 7 it is not WATCHED", y.best(5, 7, 3, 0), 41);
     d.is("and 1 waits for its HOST to rest", y.best(5, 7, 3, 1), 56);
+  }
+
+  /** Each in the set is WATCHED for itself, not as those ahead of it are. */
+  private static void promise26Watched() {
+    BeamHall x = new BeamHall();
+    x.bench(1, 1);
+    x.bench(1, 3);
+    x.set(0, 0);
+    for (int i = 0; i < 2; i++) {
+      Due.ask(x, i, 1);
+      x.mark(0, i, 5);
+    }
+    d.is("not WATCHED: both", x.best(3, 3, 3, -1), 10);
+    Due.text(x, "W:g=1", 0);
+    d.is("1 alone has two HOSTS", x.best(3, 3, 2, 1), 25);
+    d.is("0 has one of the two that 1 wants", x.best(3, 3, 3, -1), 5);
+    d.is("0 first", x.best(3, 3, 3, 0), 24);
+    d.is("none for 1", x.best(3, 3, 3, 1), -9);
+    d.is("one SHIFT more: both", x.best(3, 4, 3, -1), 10);
+    d.is("1 in it", x.best(3, 4, 3, 1), 33);
+    BeamHall y = new BeamHall();
+    y.bench(1, 3);
+    y.bench(1, 3);
+    y.bench(1, 4);
+    y.set(0, 0);
+    for (int i = 0; i < 3; i++) {
+      y.draft(i, 0, 2, 0);
+      y.ask(0, i == 0 ? 4 : 3, 15, -1, 0, 0, 0);
+      y.mark(0, i, 5);
+    }
+    d.is("not WATCHED: all", y.best(3, 4, 7, -1), 15);
+    Due.text(y, "W:g=1&s=4", 0);
+    d.is("1 has both HOSTS in its second SHIFT", y.best(3, 4, 7, -1), 10);
+    d.is("0", y.best(3, 4, 7, 0), 26);
+    d.is("1", y.best(3, 4, 7, 1), 24);
+    d.is("none for 2", y.best(3, 4, 7, 2), -9);
+    d.is("from 4 on 1 has them in its first one", y.best(4, 5, 7, -1), 10);
+    d.is("from 5 on it is not WATCHED", y.best(5, 6, 7, -1), 15);
   }
 
   private static void promise26Refusals() {

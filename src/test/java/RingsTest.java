@@ -8,6 +8,7 @@ public final class RingsTest {
     promise32Fits();
     promise32GivenOneByOne();
     promise33Swap();
+    promise33SwapGreatest();
     d.end("RingsTest");
   }
 
@@ -196,5 +197,27 @@ public final class RingsTest {
     d.is("WISHES", y.ring(-1), 2);
     Due.text(y, "W:g=0&s=6", 0);
     d.is("WATCHED in its second SHIFT there: one HOST is too few", y.ring(-1), 0);
+  }
+
+  /** The greatest RING: five, of LONG 4, the last of them up to SHIFT 199. */
+  private static void promise33SwapGreatest() {
+    BeamHall x = new BeamHall();
+    x.bench(1, 3);
+    x.set(0, 0);
+    Due.text(x, "W:g=4", 0);
+    for (int i = 0; i < 5; i++) {
+      Due.ask(x, i, 4);
+      x.give(i, 0, 180 + 4 * i);
+    }
+    wishes(x, 0, 1, 2, 3, 4);
+    ring("five of LONG 4", x, 0, 1, 2, 3, 4);
+    for (int s = 180; s < 200; s++) d.is("HOSTS stay in " + s, x.hosts(0, s), s < 196 ? 1 : 3);
+    d.is("swap()", x.swap(), 5);
+    for (int i = 0; i < 5; i++) d.is("where " + i + " is", x.askOf(i, 6), 180 + 4 * ((i + 1) % 5));
+    for (int s = 180; s < 200; s++) {
+      d.is("HOSTS in " + s, x.hosts(0, s), s < 184 ? 3 : 1);
+      d.is("HAD in " + s, x.had(0, s, 0), ((s - 180) / 4 + 4) % 5);
+    }
+    d.is("20 SHIFTS as before", x.count(6), 20);
   }
 }
